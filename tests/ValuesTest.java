@@ -5,6 +5,7 @@ public final class ValuesTest {
 
     public static void main(String[] args) {
         promise12Person();
+        promise12FirstBids();
         promise12PersonRefused();
         promise13Work();
         promise14Absence();
@@ -17,6 +18,7 @@ public final class ValuesTest {
         promise16WhyRefused();
         promise17Value();
         promise17MetersBelowZero();
+        promise17MetersOfAnyPerson();
         promise17ValueRefused();
         promise18Setting();
         check.end();
@@ -75,6 +77,21 @@ public final class ValuesTest {
         check.is("bids left", meter.person(2, 6), 1);
         meter.giveUp(3);
         check.is("no bid for what is given up", meter.person(1, 6), 0);
+    }
+
+    /** The first person's bids for the first absence and for others, with all the persons there can be. */
+    private static void promise12FirstBids() {
+        CoverMeter meter = withRosters(0, Check.shifts(3, 9), 0, 0, 0, 0, 0, 0);
+        meter.absent(1, 3);
+        meter.absent(1, 9);
+        meter.bid(0, 0, 1);
+        meter.bid(7, 0, 2);
+        meter.bid(0, 1, 3);
+        check.is("the bids of the first person", meter.person(0, 6), 2);
+        check.is("the bids of the last person", meter.person(7, 6), 1);
+        check.is("the bids for the first absence", meter.absence(0, 5), 2);
+        check.is("the bids for the second absence", meter.absence(1, 5), 1);
+        check.is("all bids", meter.value(8), 3);
     }
 
     private static void promise12PersonRefused() {
@@ -227,6 +244,25 @@ public final class ValuesTest {
         meter.cover(0);
         check.is("the greatest meter", meter.value(6), 10);
         check.is("the lowest meter", meter.value(7), -10);
+    }
+
+    /** The greatest and the lowest meter are the last person's, then the first one's. */
+    private static void promise17MetersOfAnyPerson() {
+        CoverMeter meter = withRosters(Check.shifts(3), 0, Check.shifts(9, 20));
+        meter.absent(0, 3);
+        meter.absent(2, 9);
+        meter.absent(2, 20);
+        meter.bid(2, 0, 7);
+        meter.cover(0);
+        check.is("the greatest meter is the last", meter.value(6), 7);
+        check.is("the lowest meter is the first", meter.value(7), -7);
+        meter.bid(0, 1, 20);
+        meter.cover(1);
+        check.is("the greatest meter is the first", meter.value(6), 13);
+        check.is("the lowest meter is the last", meter.value(7), -13);
+        meter.cover(2);
+        check.is("the greatest meter is the first still", meter.value(6), 13);
+        check.is("the lowest meter is lower", meter.value(7), -23);
     }
 
     private static void promise17ValueRefused() {

@@ -7,6 +7,7 @@ public final class WhatIfTest {
         promise19Coverer();
         promise20CoveredWith();
         promise20CoveredWithInTurn();
+        promise20CoveredWithOfAnyPerson();
         promise21MostCovered();
         promise21MoreThanCoverAll();
         promise21LeavesOneOut();
@@ -88,6 +89,13 @@ public final class WhatIfTest {
         check.is("coverAll does so", meter.set(0, 5) + meter.coverAll(), 2);
     }
 
+    private static void promise20CoveredWithOfAnyPerson() {
+        CoverMeter meter = withRosters(0, Check.shifts(9));
+        meter.absent(1, 9);
+        check.is("by the first person", meter.coveredWith(0), 1);
+        check.is("by the first person together", meter.mostCovered(), 1);
+    }
+
     private static void promise21MostCovered() {
         CoverMeter meter = withRosters(Check.shifts(6, 7, 8), 0);
         check.is("none open", meter.mostCovered(), 0);
@@ -154,6 +162,15 @@ public final class WhatIfTest {
             meter.roster(person, 30, true);
         }
         check.is("the last by nobody", meter.mostCovered(), 4);
+
+        CoverMeter full = withRosters((1L << 42) - 1, 0);
+        for (int shift = 0; shift < 30; shift++) {
+            full.absent(0, shift);
+        }
+        for (int absence = 0; absence < 25; absence++) {
+            full.giveUp(absence);
+        }
+        check.is("the last five of thirty", full.mostCovered(), 3);
     }
 
     private static void promise22FreeShifts() {
@@ -191,6 +208,10 @@ public final class WhatIfTest {
         check.is("of three", meter.spread(), 22.0 / 3.0);
         meter.addPerson(0);
         check.is("of four", meter.spread(), 5.5);
+        for (int person = 4; person < 8; person++) {
+            meter.addPerson(0);
+        }
+        check.is("of eight", meter.spread(), 2.75);
         long before = meter.digest();
         meter.spread();
         check.is("nothing changes", meter.digest(), before);

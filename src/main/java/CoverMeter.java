@@ -602,26 +602,31 @@ public final class CoverMeter {
             if (statuses[absence] != OPEN) {
                 return NONE;
             }
-            int bidder = firstOf(absence, true);
-            return bidder != NONE ? bidder : firstOf(absence, false);
-        }
-
-        /** The first of those who can cover it: of the bidders by their bids, or of all by their turns. */
-        int firstOf(int absence, boolean bidders) {
-            int first = NONE;
-            int firstRank = 0;
+            int next = NONE;
             for (int person = 0; person < persons; person++) {
-                int rank = bidders ? bids[bidIndex(person, absence)] : turns[person];
-                if (rank == NONE || hindrance(person, absence) != CAN_COVER) {
-                    continue;
-                }
-                if (first == NONE || rank < firstRank
-                        || rank == firstRank && meters[person] < meters[first]) {
-                    first = person;
-                    firstRank = rank;
+                if (hindrance(person, absence) == CAN_COVER
+                        && (next == NONE || comesBefore(person, next, absence))) {
+                    next = person;
                 }
             }
-            return first;
+            return next;
+        }
+
+        /** Nobody has to take a turn while a bidder can cover, so a bidder comes before all others. */
+        boolean comesBefore(int person, int other, int absence) {
+            int bid = bids[bidIndex(person, absence)];
+            int otherBid = bids[bidIndex(other, absence)];
+            if (bid == NONE && otherBid == NONE) {
+                return isLess(turns[person], meters[person], turns[other], meters[other]);
+            }
+            if (bid == NONE || otherBid == NONE) {
+                return bid != NONE;
+            }
+            return isLess(bid, meters[person], otherBid, meters[other]);
+        }
+
+        private static boolean isLess(int first, int second, int otherFirst, int otherSecond) {
+            return first != otherFirst ? first < otherFirst : second < otherSecond;
         }
 
         /** Tells whether it is covered now: false if it was not open, or nobody can. */
