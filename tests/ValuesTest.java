@@ -263,6 +263,11 @@ public final class ValuesTest {
         meter.cover(2);
         check.is("the greatest meter is the first still", meter.value(6), 13);
         check.is("the lowest meter is lower", meter.value(7), -23);
+        meter.roster(1, 30, true);
+        meter.absent(1, 30);
+        meter.set(1, 50);
+        meter.cover(3);
+        check.is("the lowest meter is between them", meter.value(7), -40);
     }
 
     private static void promise17ValueRefused() {
