@@ -19,6 +19,14 @@ final class Check {
         return set;
     }
 
+    static CoverMeter withRosters(long... rosters) {
+        CoverMeter meter = new CoverMeter();
+        for (long roster : rosters) {
+            meter.addPerson(roster);
+        }
+        return meter;
+    }
+
     static void append(CoverMeter meter, String text) {
         for (int i = 0; i < text.length(); i++) {
             meter.append(text.charAt(i));

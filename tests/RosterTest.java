@@ -27,14 +27,6 @@ public final class RosterTest {
         check.end();
     }
 
-    private static CoverMeter withRosters(long... rosters) {
-        CoverMeter meter = new CoverMeter();
-        for (long roster : rosters) {
-            meter.addPerson(roster);
-        }
-        return meter;
-    }
-
     private static void meters(String when, CoverMeter meter, int... due) {
         for (int person = 0; person < due.length; person++) {
             check.is("the meter of " + person + " " + when, meter.person(person, 3), due[person]);
@@ -109,7 +101,7 @@ public final class RosterTest {
     }
 
     private static void promise4Roster() {
-        CoverMeter meter = withRosters(0, Check.shifts(3, 40));
+        CoverMeter meter = Check.withRosters(0, Check.shifts(3, 40));
         check.is("shift 0 in", meter.roster(0, 0, true), 1);
         check.is("shift 41 in", meter.roster(0, 41, true), 2);
         check.is("shift 33 in", meter.roster(0, 33, true), 3);
@@ -123,7 +115,7 @@ public final class RosterTest {
     }
 
     private static void promise4RosterRefused() {
-        CoverMeter meter = withRosters(0, Check.shifts(3));
+        CoverMeter meter = Check.withRosters(0, Check.shifts(3));
         for (int person : new int[] {-1, 2, Integer.MIN_VALUE, Integer.MAX_VALUE}) {
             check.noPlace("roster of " + person, meter, () -> meter.roster(person, 0, true));
             check.noPlace("roster of " + person + ", wrong shift", meter, () -> meter.roster(person, 42, true));
@@ -137,7 +129,7 @@ public final class RosterTest {
     }
 
     private static void promise4RosterAndAbsences() {
-        CoverMeter meter = withRosters(Check.shifts(3, 6), 0, 0);
+        CoverMeter meter = Check.withRosters(Check.shifts(3, 6), 0, 0);
         meter.absent(0, 3);
         meter.absent(0, 6);
         check.badState("an open absence out", meter, () -> meter.roster(0, 3, false));
@@ -154,7 +146,7 @@ public final class RosterTest {
     }
 
     private static void promise5Absent() {
-        CoverMeter meter = withRosters(ALL, Check.shifts(0, 41));
+        CoverMeter meter = Check.withRosters(ALL, Check.shifts(0, 41));
         check.is("absent", meter.absent(1, 41), 0);
         check.is("absent again", meter.absent(1, 0), 1);
         check.is("the work left", meter.work(1), 0);
@@ -174,7 +166,7 @@ public final class RosterTest {
     }
 
     private static void promise5AbsentRefused() {
-        CoverMeter meter = withRosters(Check.shifts(3), 0);
+        CoverMeter meter = Check.withRosters(Check.shifts(3), 0);
         for (int person : new int[] {-1, 2, Integer.MIN_VALUE, Integer.MAX_VALUE}) {
             check.noPlace("absent " + person, meter, () -> meter.absent(person, 3));
             check.noPlace("absent " + person + ", wrong shift", meter, () -> meter.absent(person, -1));
@@ -194,7 +186,7 @@ public final class RosterTest {
     }
 
     private static void promise6Bid() {
-        CoverMeter meter = withRosters(Check.shifts(3, 9), Check.shifts(3), 0);
+        CoverMeter meter = Check.withRosters(Check.shifts(3, 9), Check.shifts(3), 0);
         meter.absent(0, 3);
         meter.absent(0, 9);
         check.is("the first bid, of one who works then", meter.bid(1, 0, 20), 1);
@@ -214,7 +206,7 @@ public final class RosterTest {
     }
 
     private static void promise6BidRefused() {
-        CoverMeter meter = withRosters(Check.shifts(3, 9, 12), 0);
+        CoverMeter meter = Check.withRosters(Check.shifts(3, 9, 12), 0);
         meter.absent(0, 3);
         meter.absent(0, 9);
         meter.absent(0, 12);
@@ -243,7 +235,7 @@ public final class RosterTest {
     }
 
     private static void promise7TakeBack() {
-        CoverMeter meter = withRosters(Check.shifts(3, 9), 0, 0);
+        CoverMeter meter = Check.withRosters(Check.shifts(3, 9), 0, 0);
         meter.absent(0, 3);
         meter.absent(0, 9);
         meter.bid(1, 0, 7);
@@ -271,7 +263,7 @@ public final class RosterTest {
     }
 
     private static void promise8CoverByBid() {
-        CoverMeter meter = withRosters(Check.shifts(0, 6, 12, 18), Check.shifts(18), 0, 0, 0);
+        CoverMeter meter = Check.withRosters(Check.shifts(0, 6, 12, 18), Check.shifts(18), 0, 0, 0);
         meter.absent(0, 0);
         meter.absent(0, 6);
         meter.absent(0, 12);
@@ -306,7 +298,7 @@ public final class RosterTest {
     }
 
     private static void promise8CoverByTurn() {
-        CoverMeter meter = withRosters(Check.shifts(0, 6, 12, 18, 24), 0, 0, 0);
+        CoverMeter meter = Check.withRosters(Check.shifts(0, 6, 12, 18, 24), 0, 0, 0);
         for (int shift = 0; shift <= 24; shift += 6) {
             meter.absent(0, shift);
         }
@@ -333,7 +325,7 @@ public final class RosterTest {
     }
 
     private static void promise8CoverRefused() {
-        CoverMeter meter = withRosters(Check.shifts(3, 9), Check.shifts(4));
+        CoverMeter meter = Check.withRosters(Check.shifts(3, 9), Check.shifts(4));
         meter.absent(0, 3);
         meter.absent(0, 9);
         for (int none : NO_INDEX) {
@@ -351,7 +343,7 @@ public final class RosterTest {
     }
 
     private static void promise9CoverAll() {
-        CoverMeter meter = withRosters(Check.shifts(4, 3, 20), Check.shifts(3));
+        CoverMeter meter = Check.withRosters(Check.shifts(4, 3, 20), Check.shifts(3));
         check.is("coverAll of none", meter.coverAll(), 0);
         meter.absent(0, 4);
         meter.absent(0, 20);
@@ -369,7 +361,7 @@ public final class RosterTest {
         meter.undo();
         check.is("open again", meter.value(2), 2);
 
-        CoverMeter near = withRosters(Check.shifts(7, 6, 30), Check.shifts(0));
+        CoverMeter near = Check.withRosters(Check.shifts(7, 6, 30), Check.shifts(0));
         near.absent(0, 7);
         near.absent(0, 6);
         near.absent(0, 30);
@@ -380,7 +372,7 @@ public final class RosterTest {
     }
 
     private static void promise10HandOver() {
-        CoverMeter meter = withRosters(Check.shifts(3, 9), 0, 0);
+        CoverMeter meter = Check.withRosters(Check.shifts(3, 9), 0, 0);
         meter.absent(0, 3);
         meter.absent(0, 9);
         meter.cover(0);
@@ -407,7 +399,7 @@ public final class RosterTest {
     }
 
     private static void promise10HandOverRefused() {
-        CoverMeter meter = withRosters(Check.shifts(3, 9, 20), Check.shifts(4, 20), 0, 0);
+        CoverMeter meter = Check.withRosters(Check.shifts(3, 9, 20), Check.shifts(4, 20), 0, 0);
         meter.absent(0, 3);
         meter.absent(0, 9);
         meter.absent(0, 20);
@@ -432,7 +424,7 @@ public final class RosterTest {
     }
 
     private static void promise11GiveUp() {
-        CoverMeter meter = withRosters(Check.shifts(3, 9), 0, Check.shifts(3));
+        CoverMeter meter = Check.withRosters(Check.shifts(3, 9), 0, Check.shifts(3));
         meter.absent(0, 3);
         meter.absent(0, 9);
         meter.bid(1, 0, 7);

@@ -24,17 +24,9 @@ public final class ValuesTest {
         check.end();
     }
 
-    private static CoverMeter withRosters(long... rosters) {
-        CoverMeter meter = new CoverMeter();
-        for (long roster : rosters) {
-            meter.addPerson(roster);
-        }
-        return meter;
-    }
-
     /** Absence 0 is covered by a bid of 6, 1 by a turn, 2 is given up, 3 open with two bids, 4 open. */
     private static CoverMeter mixed() {
-        CoverMeter meter = withRosters(Check.shifts(0, 6, 12, 18), Check.shifts(24, 40), 0);
+        CoverMeter meter = Check.withRosters(Check.shifts(0, 6, 12, 18), Check.shifts(24, 40), 0);
         meter.absent(0, 0);
         meter.absent(0, 6);
         meter.absent(0, 12);
@@ -81,7 +73,7 @@ public final class ValuesTest {
 
     /** The first person's bids for the first absence and for others, with all the persons there can be. */
     private static void promise12FirstBids() {
-        CoverMeter meter = withRosters(0, Check.shifts(3, 9), 0, 0, 0, 0, 0, 0);
+        CoverMeter meter = Check.withRosters(0, Check.shifts(3, 9), 0, 0, 0, 0, 0, 0);
         meter.absent(1, 3);
         meter.absent(1, 9);
         meter.bid(0, 0, 1);
@@ -110,7 +102,7 @@ public final class ValuesTest {
         check.is("all absent", meter.work(0), 0);
         check.is("a roster with an absence and a cover", meter.work(1), Check.shifts(24, 6));
         check.is("a cover alone", meter.work(2), Check.shifts(0));
-        check.is("the last shift", withRosters(1L << 41).work(0), 1L << 41);
+        check.is("the last shift", Check.withRosters(1L << 41).work(0), 1L << 41);
         for (int none : new int[] {-1, 3, 8, Integer.MIN_VALUE, Integer.MAX_VALUE}) {
             check.noPlace("work of " + none, meter, () -> meter.work(none));
         }
@@ -144,10 +136,10 @@ public final class ValuesTest {
         check.is("of one given up", meter.absence(2, 6), 0b110);
         check.is("of an open one", meter.absence(3, 6), 0b110);
         check.is("of an open one of another", meter.absence(4, 6), 0b101);
-        CoverMeter many = withRosters(1, 0, 0, 0, 0, 0, 0, 0);
+        CoverMeter many = Check.withRosters(1, 0, 0, 0, 0, 0, 0, 0);
         many.absent(0, 0);
         check.is("all but the own", many.absence(0, 6), 0b11111110);
-        CoverMeter alone = withRosters(1);
+        CoverMeter alone = Check.withRosters(1);
         alone.absent(0, 0);
         check.is("nobody", alone.absence(0, 6), 0);
     }
@@ -168,7 +160,7 @@ public final class ValuesTest {
     }
 
     private static void promise16Why() {
-        CoverMeter meter = withRosters(Check.shifts(10), Check.shifts(9, 10, 11),
+        CoverMeter meter = Check.withRosters(Check.shifts(10), Check.shifts(9, 10, 11),
                 Check.shifts(9, 10, 11), Check.shifts(9, 11), Check.shifts(11), Check.shifts(8, 12), 0);
         meter.absent(0, 10);
         meter.absent(1, 10);
@@ -188,21 +180,20 @@ public final class ValuesTest {
     }
 
     private static void promise16WhyWithRest() {
-        CoverMeter meter = withRosters(Check.shifts(20), Check.shifts(14), Check.shifts(15), Check.shifts(25),
+        CoverMeter meter = Check.withRosters(Check.shifts(20), Check.shifts(14), Check.shifts(15), Check.shifts(25),
                 Check.shifts(26));
         meter.absent(0, 20);
-        int[] near = {5, 5};
         for (int rest = 0; rest <= 5; rest++) {
             meter.set(0, rest);
             check.is("six before, rest " + rest, meter.why(1, 0), 0);
-            check.is("five before, rest " + rest, meter.why(2, 0), rest >= near[0] ? 4 : 0);
-            check.is("five behind, rest " + rest, meter.why(3, 0), rest >= near[1] ? 5 : 0);
+            check.is("five before, rest " + rest, meter.why(2, 0), rest == 5 ? 4 : 0);
+            check.is("five behind, rest " + rest, meter.why(3, 0), rest == 5 ? 5 : 0);
             check.is("six behind, rest " + rest, meter.why(4, 0), 0);
         }
     }
 
     private static void promise16WhyAtTheEnds() {
-        CoverMeter meter = withRosters(Check.shifts(0, 41), Check.shifts(41), Check.shifts(0), Check.shifts(36),
+        CoverMeter meter = Check.withRosters(Check.shifts(0, 41), Check.shifts(41), Check.shifts(0), Check.shifts(36),
                 Check.shifts(5), Check.shifts(31, 32, 33));
         meter.absent(0, 0);
         meter.absent(0, 41);
@@ -236,7 +227,7 @@ public final class ValuesTest {
     }
 
     private static void promise17MetersBelowZero() {
-        CoverMeter meter = withRosters(Check.shifts(3));
+        CoverMeter meter = Check.withRosters(Check.shifts(3));
         check.is("the greatest meter of one", meter.value(6), 0);
         check.is("the lowest meter of one", meter.value(7), 0);
         meter.addPerson(0);
@@ -248,7 +239,7 @@ public final class ValuesTest {
 
     /** The greatest and the lowest meter are the last person's, then the first one's. */
     private static void promise17MetersOfAnyPerson() {
-        CoverMeter meter = withRosters(Check.shifts(3), 0, Check.shifts(9, 20));
+        CoverMeter meter = Check.withRosters(Check.shifts(3), 0, Check.shifts(9, 20));
         meter.absent(0, 3);
         meter.absent(2, 9);
         meter.absent(2, 20);

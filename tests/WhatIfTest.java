@@ -17,16 +17,8 @@ public final class WhatIfTest {
         check.end();
     }
 
-    private static CoverMeter withRosters(long... rosters) {
-        CoverMeter meter = new CoverMeter();
-        for (long roster : rosters) {
-            meter.addPerson(roster);
-        }
-        return meter;
-    }
-
     private static void promise19Coverer() {
-        CoverMeter meter = withRosters(Check.shifts(3, 9, 15), Check.shifts(10), 0);
+        CoverMeter meter = Check.withRosters(Check.shifts(3, 9, 15), Check.shifts(10), 0);
         meter.absent(0, 3);
         meter.absent(0, 9);
         meter.absent(0, 15);
@@ -49,7 +41,7 @@ public final class WhatIfTest {
     }
 
     private static void promise20CoveredWith() {
-        CoverMeter meter = withRosters(Check.shifts(6, 20, 30), Check.shifts(9, 32), 0);
+        CoverMeter meter = Check.withRosters(Check.shifts(6, 20, 30), Check.shifts(9, 32), 0);
         meter.absent(0, 6);
         meter.absent(0, 20);
         meter.absent(0, 30);
@@ -73,7 +65,7 @@ public final class WhatIfTest {
 
     /** The first cover stands in the way of the second: of one person, and by the turns. */
     private static void promise20CoveredWithInTurn() {
-        CoverMeter meter = withRosters(Check.shifts(6, 8), 0);
+        CoverMeter meter = Check.withRosters(Check.shifts(6, 8), 0);
         meter.absent(0, 6);
         meter.absent(0, 8);
         check.is("one after the other, near", meter.coveredWith(2), 1);
@@ -90,14 +82,14 @@ public final class WhatIfTest {
     }
 
     private static void promise20CoveredWithOfAnyPerson() {
-        CoverMeter meter = withRosters(0, Check.shifts(9));
+        CoverMeter meter = Check.withRosters(0, Check.shifts(9));
         meter.absent(1, 9);
         check.is("by the first person", meter.coveredWith(0), 1);
         check.is("by the first person together", meter.mostCovered(), 1);
     }
 
     private static void promise21MostCovered() {
-        CoverMeter meter = withRosters(Check.shifts(6, 7, 8), 0);
+        CoverMeter meter = Check.withRosters(Check.shifts(6, 7, 8), 0);
         check.is("none open", meter.mostCovered(), 0);
         meter.absent(0, 6);
         check.is("one", meter.mostCovered(), 1);
@@ -122,7 +114,7 @@ public final class WhatIfTest {
 
     /** coverAll gives 0 to person 1, the only one who can cover 1; bids and turns do not count here. */
     private static void promise21MoreThanCoverAll() {
-        CoverMeter meter = withRosters(Check.shifts(6, 9), 0, Check.shifts(10));
+        CoverMeter meter = Check.withRosters(Check.shifts(6, 9), 0, Check.shifts(10));
         meter.set(0, 3);
         meter.absent(0, 6);
         meter.absent(0, 9);
@@ -134,13 +126,13 @@ public final class WhatIfTest {
 
     /** The best leaves out the first absence, or the one in the middle. */
     private static void promise21LeavesOneOut() {
-        CoverMeter meter = withRosters(Check.shifts(8, 6, 10), 0);
+        CoverMeter meter = Check.withRosters(Check.shifts(8, 6, 10), 0);
         meter.set(0, 3);
         meter.absent(0, 8);
         meter.absent(0, 6);
         meter.absent(0, 10);
         check.is("without the first", meter.mostCovered(), 2);
-        CoverMeter other = withRosters(Check.shifts(6, 8, 10), 0);
+        CoverMeter other = Check.withRosters(Check.shifts(6, 8, 10), 0);
         other.set(0, 3);
         other.absent(0, 6);
         other.absent(0, 8);
@@ -149,7 +141,7 @@ public final class WhatIfTest {
     }
 
     private static void promise21AtMostFive() {
-        CoverMeter meter = withRosters(Check.shifts(0, 6, 12, 18, 24, 30), 0, 0, 0, 0, 0, 0, 0);
+        CoverMeter meter = Check.withRosters(Check.shifts(0, 6, 12, 18, 24, 30), 0, 0, 0, 0, 0, 0, 0);
         for (int shift = 0; shift <= 24; shift += 6) {
             meter.absent(0, shift);
         }
@@ -163,7 +155,7 @@ public final class WhatIfTest {
         }
         check.is("the last by nobody", meter.mostCovered(), 4);
 
-        CoverMeter full = withRosters((1L << 42) - 1, 0);
+        CoverMeter full = Check.withRosters((1L << 42) - 1, 0);
         for (int shift = 0; shift < 30; shift++) {
             full.absent(0, shift);
         }
@@ -174,7 +166,7 @@ public final class WhatIfTest {
     }
 
     private static void promise22FreeShifts() {
-        CoverMeter meter = withRosters(0, (1L << 42) - 1, Check.shifts(0, 20, 41), Check.shifts(10));
+        CoverMeter meter = Check.withRosters(0, (1L << 42) - 1, Check.shifts(0, 20, 41), Check.shifts(10));
         check.is("without work", meter.freeShifts(0), 42);
         check.is("with all work", meter.freeShifts(1), 0);
         check.is("with rest 1", meter.freeShifts(2), 42 - 2 - 3 - 2);
