@@ -30,7 +30,7 @@ public final class RoomTest {
     /** Each undoable call is undone at once: so the rounds can go on for ever. */
     private static void round(CoverMeter meter) {
         if (meter.value(0) == 0) {
-            meter.addPerson((1L << 42) - 1);
+            meter.addPerson(Check.ALL_SHIFTS);
             meter.addPerson(0);
             meter.absent(0, 3);
             meter.absent(0, 9);

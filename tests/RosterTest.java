@@ -1,7 +1,5 @@
 /** Promises 1 to 11: a new object, and the calls that change the roster and its covers. */
 public final class RosterTest {
-    private static final long ALL = (1L << 42) - 1;
-    private static final int[] NO_INDEX = {-1, 30, Integer.MIN_VALUE, Integer.MAX_VALUE};
     private static final Check check = new Check("RosterTest");
 
     public static void main(String[] args) {
@@ -25,12 +23,6 @@ public final class RosterTest {
         promise10HandOverRefused();
         promise11GiveUp();
         check.end();
-    }
-
-    private static void meters(String when, CoverMeter meter, int... due) {
-        for (int person = 0; person < due.length; person++) {
-            check.is("the meter of " + person + " " + when, meter.person(person, 3), due[person]);
-        }
     }
 
     private static void promise1NewObject() {
@@ -81,10 +73,10 @@ public final class RosterTest {
 
     private static void promise3AddPerson() {
         CoverMeter meter = new CoverMeter();
-        for (long roster : new long[] {-1, ALL + 1, Long.MIN_VALUE, Long.MAX_VALUE}) {
+        for (long roster : new long[] {-1, Check.ALL_SHIFTS + 1, Long.MIN_VALUE, Long.MAX_VALUE}) {
             check.badArgument("addPerson " + roster, meter, () -> meter.addPerson(roster));
         }
-        long[] rosters = {0, ALL, 1, 1L << 41, 5, 6, 7, 8};
+        long[] rosters = {0, Check.ALL_SHIFTS, 1, 1L << 41, 5, 6, 7, 8};
         for (int person = 0; person < 8; person++) {
             check.is("addPerson", meter.addPerson(rosters[person]), person);
             check.is("the persons", meter.value(0), person + 1);
@@ -146,7 +138,7 @@ public final class RosterTest {
     }
 
     private static void promise5Absent() {
-        CoverMeter meter = Check.withRosters(ALL, Check.shifts(0, 41));
+        CoverMeter meter = Check.withRosters(Check.ALL_SHIFTS, Check.shifts(0, 41));
         check.is("absent", meter.absent(1, 41), 0);
         check.is("absent again", meter.absent(1, 0), 1);
         check.is("the work left", meter.work(1), 0);
@@ -210,7 +202,7 @@ public final class RosterTest {
         meter.absent(0, 3);
         meter.absent(0, 9);
         meter.absent(0, 12);
-        for (int none : NO_INDEX) {
+        for (int none : Check.NOWHERE) {
             check.noPlace("bid of " + none, meter, () -> meter.bid(none, 0, 0));
             check.noPlace("bid for " + none, meter, () -> meter.bid(1, none, 0));
             check.noPlace("bid for " + none + ", wrong points", meter, () -> meter.bid(1, none, -1));
@@ -241,7 +233,7 @@ public final class RosterTest {
         meter.bid(1, 0, 7);
         meter.bid(2, 0, 0);
         meter.bid(1, 1, 9);
-        for (int none : NO_INDEX) {
+        for (int none : Check.NOWHERE) {
             check.noPlace("takeBack of " + none, meter, () -> meter.takeBack(none, 0));
             check.noPlace("takeBack for " + none, meter, () -> meter.takeBack(1, none));
         }
@@ -277,7 +269,7 @@ public final class RosterTest {
         check.is("its bids are gone", meter.absence(0, 5), 0);
         check.is("a bid is gone", meter.bidOf(3, 0), CoverMeter.NONE);
         check.is("no turn", meter.person(2, 4), 0);
-        meters("after a bid of 3", meter, -3, 0, 3, 0, 0);
+        check.metersAre("after a bid of 3", meter, -3, 0, 3, 0, 0);
         meter.bid(2, 1, 5);
         meter.bid(3, 1, 5);
         meter.bid(4, 1, 5);
@@ -290,11 +282,11 @@ public final class RosterTest {
         meter.bid(1, 3, 0);
         meter.bid(2, 3, 20);
         check.is("who cannot cover is passed over", meter.cover(3), 2);
-        meters("at last", meter, -28, 0, 23, 5, 0);
+        check.metersAre("at last", meter, -28, 0, 23, 5, 0);
         check.is("undo", meter.undo(), 3);
         check.is("open after undo", meter.absence(3, 2), 0);
         check.is("the bids after undo", meter.absence(3, 5), 2);
-        meters("after undo", meter, -8, 0, 3, 5, 0);
+        check.metersAre("after undo", meter, -8, 0, 3, 5, 0);
     }
 
     private static void promise8CoverByTurn() {
@@ -309,7 +301,7 @@ public final class RosterTest {
         check.is("the points of a turn", meter.absence(0, 4), 10);
         check.is("its bids are gone", meter.absence(0, 5), 0);
         check.is("one turn", meter.person(1, 4), 1);
-        meters("after a turn", meter, -10, 10, 0, 0);
+        check.metersAre("after a turn", meter, -10, 10, 0, 0);
         meter.bid(2, 1, 5);
         check.is("a bid of 5", meter.cover(1), 2);
         check.is("the fewest turns, the lowest meter", meter.cover(2), 3);
@@ -321,14 +313,14 @@ public final class RosterTest {
         check.is("the points as they are set now", meter.absence(4, 4), 50);
         check.is("the points before", meter.absence(3, 4), 10);
         check.is("two turns", meter.person(1, 4), 2);
-        meters("at last", meter, -85, 60, 15, 10);
+        check.metersAre("at last", meter, -85, 60, 15, 10);
     }
 
     private static void promise8CoverRefused() {
         CoverMeter meter = Check.withRosters(Check.shifts(3, 9), Check.shifts(4));
         meter.absent(0, 3);
         meter.absent(0, 9);
-        for (int none : NO_INDEX) {
+        for (int none : Check.NOWHERE) {
             check.noPlace("cover " + none, meter, () -> meter.cover(none));
         }
         check.noPlace("cover the next", meter, () -> meter.cover(2));
@@ -386,16 +378,16 @@ public final class RosterTest {
         check.is("the turns of the other", meter.person(2, 4), 0);
         check.is("the work of the one before", meter.work(1), 0);
         check.is("the work of the other", meter.work(2), Check.shifts(3, 9));
-        meters("after handOver", meter, -16, 0, 16);
+        check.metersAre("after handOver", meter, -16, 0, 16);
         check.is("handOver of a bid", meter.handOver(1, 1), 2);
         check.is("still by a bid", meter.absence(1, 2), 1);
-        meters("after both", meter, -16, 6, 10);
+        check.metersAre("after both", meter, -16, 6, 10);
         check.is("the covers handed over", meter.value(10), 2);
         check.is("back again", meter.handOver(0, 1), 2);
         check.is("counted again", meter.value(10), 3);
         check.is("undo", meter.undo(), 3);
         check.is("the covers handed over after undo", meter.value(10), 2);
-        meters("after undo", meter, -16, 6, 10);
+        check.metersAre("after undo", meter, -16, 6, 10);
     }
 
     private static void promise10HandOverRefused() {
@@ -409,7 +401,7 @@ public final class RosterTest {
         meter.giveUp(1);
         meter.cover(2);
         check.badState("handOver of one given up", meter, () -> meter.handOver(1, 3));
-        for (int none : NO_INDEX) {
+        for (int none : Check.NOWHERE) {
             check.noPlace("handOver of " + none, meter, () -> meter.handOver(none, 3));
             check.noPlace("handOver to " + none, meter, () -> meter.handOver(0, none));
             check.noPlace("handOver of an open one to " + none, meter, () -> meter.handOver(3, none));
@@ -429,7 +421,7 @@ public final class RosterTest {
         meter.absent(0, 9);
         meter.bid(1, 0, 7);
         meter.bid(2, 0, 8);
-        for (int none : NO_INDEX) {
+        for (int none : Check.NOWHERE) {
             check.noPlace("giveUp of " + none, meter, () -> meter.giveUp(none));
         }
         check.noPlace("giveUp of the next", meter, () -> meter.giveUp(2));

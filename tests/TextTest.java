@@ -19,7 +19,7 @@ public final class TextTest {
 
     private static CoverMeter twoPersons() {
         CoverMeter meter = new CoverMeter();
-        meter.addPerson((1L << 42) - 1);
+        meter.addPerson(Check.ALL_SHIFTS);
         meter.addPerson(0);
         return meter;
     }

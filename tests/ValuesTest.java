@@ -1,6 +1,5 @@
 /** Promises 12 to 18: what the meter tells of persons, absences, bids, reasons and settings. */
 public final class ValuesTest {
-    private static final int[] NO_INDEX = {-1, 30, Integer.MIN_VALUE, Integer.MAX_VALUE};
     private static final Check check = new Check("ValuesTest");
 
     public static void main(String[] args) {
@@ -42,29 +41,17 @@ public final class ValuesTest {
         return meter;
     }
 
-    private static void personIs(CoverMeter meter, int person, int... due) {
-        for (int what = 0; what < due.length; what++) {
-            check.is("person " + person + ", " + what, meter.person(person, what), due[what]);
-        }
-    }
-
     private static void absenceIs(CoverMeter meter, int absence, int... due) {
         for (int what = 0; what < due.length; what++) {
             check.is("absence " + absence + ", " + what, meter.absence(absence, what), due[what]);
         }
     }
 
-    private static void valuesAre(CoverMeter meter, int... due) {
-        for (int what = 0; what < due.length; what++) {
-            check.is("value " + what, meter.value(what), due[what]);
-        }
-    }
-
     private static void promise12Person() {
         CoverMeter meter = mixed();
-        personIs(meter, 0, 4, 4, 0, -16, 0, 0, 0);
-        personIs(meter, 1, 2, 1, 1, 10, 1, 2, 1);
-        personIs(meter, 2, 0, 0, 1, 6, 0, 1, 2);
+        check.personIs(meter, 0, 4, 4, 0, -16, 0, 0, 0);
+        check.personIs(meter, 1, 2, 1, 1, 10, 1, 2, 1);
+        check.personIs(meter, 2, 0, 0, 1, 6, 0, 1, 2);
         meter.takeBack(2, 3);
         check.is("bids left", meter.person(2, 6), 1);
         meter.giveUp(3);
@@ -119,7 +106,7 @@ public final class ValuesTest {
 
     private static void promise14AbsenceRefused() {
         CoverMeter meter = mixed();
-        for (int none : NO_INDEX) {
+        for (int none : Check.NOWHERE) {
             check.noPlace("absence " + none, meter, () -> meter.absence(none, 0));
             check.noPlace("absence " + none + ", wrong question", meter, () -> meter.absence(none, -1));
         }
@@ -151,7 +138,7 @@ public final class ValuesTest {
         check.is("no bid", meter.bidOf(0, 4), CoverMeter.NONE);
         check.is("no bid for the own", meter.bidOf(1, 4), CoverMeter.NONE);
         check.is("a bid gone with the cover", meter.bidOf(2, 0), CoverMeter.NONE);
-        for (int none : NO_INDEX) {
+        for (int none : Check.NOWHERE) {
             check.noPlace("bidOf " + none, meter, () -> meter.bidOf(none, 0));
             check.noPlace("bidOf for " + none, meter, () -> meter.bidOf(0, none));
         }
@@ -209,7 +196,7 @@ public final class ValuesTest {
 
     private static void promise16WhyRefused() {
         CoverMeter meter = mixed();
-        for (int none : NO_INDEX) {
+        for (int none : Check.NOWHERE) {
             check.noPlace("why " + none, meter, () -> meter.why(none, 0));
             check.noPlace("why for " + none, meter, () -> meter.why(0, none));
         }
@@ -219,11 +206,11 @@ public final class ValuesTest {
 
     private static void promise17Value() {
         CoverMeter meter = mixed();
-        valuesAre(meter, 3, 5, 2, 1, 1, 1, 10, -16, 3, 16, 0);
+        check.valuesAre(meter, 3, 5, 2, 1, 1, 1, 10, -16, 3, 16, 0);
         meter.handOver(1, 2);
-        valuesAre(meter, 3, 5, 2, 1, 1, 1, 16, -16, 3, 16, 1);
+        check.valuesAre(meter, 3, 5, 2, 1, 1, 1, 16, -16, 3, 16, 1);
         meter.coverAll();
-        valuesAre(meter, 3, 5, 0, 3, 1, 1, 16, -19, 0, 19, 1);
+        check.valuesAre(meter, 3, 5, 0, 3, 1, 1, 16, -19, 0, 19, 1);
     }
 
     private static void promise17MetersBelowZero() {

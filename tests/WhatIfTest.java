@@ -1,6 +1,5 @@
 /** Promises 19 to 23: what would be, asked without a change. */
 public final class WhatIfTest {
-    private static final int[] NO_INDEX = {-1, 30, Integer.MIN_VALUE, Integer.MAX_VALUE};
     private static final Check check = new Check("WhatIfTest");
 
     public static void main(String[] args) {
@@ -34,7 +33,7 @@ public final class WhatIfTest {
         check.is("of one given up", meter.coverer(2), CoverMeter.NONE);
         meter.roster(2, 8, true);
         check.is("of one that nobody can cover", meter.coverer(1), CoverMeter.NONE);
-        for (int none : NO_INDEX) {
+        for (int none : Check.NOWHERE) {
             check.noPlace("coverer of " + none, meter, () -> meter.coverer(none));
         }
         check.noPlace("coverer of the next", meter, () -> meter.coverer(3));
@@ -155,7 +154,7 @@ public final class WhatIfTest {
         }
         check.is("the last by nobody", meter.mostCovered(), 4);
 
-        CoverMeter full = Check.withRosters((1L << 42) - 1, 0);
+        CoverMeter full = Check.withRosters(Check.ALL_SHIFTS, 0);
         for (int shift = 0; shift < 30; shift++) {
             full.absent(0, shift);
         }
@@ -166,7 +165,7 @@ public final class WhatIfTest {
     }
 
     private static void promise22FreeShifts() {
-        CoverMeter meter = Check.withRosters(0, (1L << 42) - 1, Check.shifts(0, 20, 41), Check.shifts(10));
+        CoverMeter meter = Check.withRosters(0, Check.ALL_SHIFTS, Check.shifts(0, 20, 41), Check.shifts(10));
         check.is("without work", meter.freeShifts(0), 42);
         check.is("with all work", meter.freeShifts(1), 0);
         check.is("with rest 1", meter.freeShifts(2), 42 - 2 - 3 - 2);
