@@ -195,6 +195,7 @@ public final class RosterEdgesTest {
         check.is("the next absence, of the next person", meter.absent(3, 6), 3);
         othersStay(meter);
         check.is("the next absence, of the first person", meter.absent(0, 40), 4);
+        check.is("the points of the first person's first one", meter.absence(0, 4), 10);
         meter.undo();
         othersStay(meter);
     }
